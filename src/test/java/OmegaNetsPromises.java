@@ -313,6 +313,58 @@ public final class OmegaNetsPromises {
         is(1, () -> x.node(3, 2));
     }
 
+    /** The node above that is nearer is below only when the one that is further has made a count OMEGA. */
+    private static void countsRiseTwice() {
+        promise = 9;
+        OmegaNets x = new OmegaNets(2, 2);
+        x.start(1, 1);
+        x.arc(0, 1, 1, 0);
+        x.arc(0, 0, 0, 3);
+        x.arc(1, 0, 2, 0);
+        x.arc(1, 1, 0, 1);
+        // Node 0 is (0,1), node 1 (3,0); then t1 leads to (1,1): node 0 lifts 0, so node 1 lifts 1.
+        x.explore();
+        is(3, () -> x.count(1, 0));
+        is(0, () -> x.count(1, 1));
+        is(OMEGA, () -> x.count(2, 0));
+        is(OMEGA, () -> x.count(2, 1));
+    }
+
+    /** Nothing of a greater tree, or of more goals, is seen in those that are made after them. */
+    private static void nothingIsLeftOver() {
+        promise = 8;
+        OmegaNets x = wheel();
+        x.want(2, 3);
+        x.explore();
+        x.back();
+        x.arc(1, 0, 0, 0);
+        x.arc(2, 1, 9, 0);
+        x.start(2, 7);
+        is(3, x::explore);
+        is(8, () -> x.bound(2));
+        is(3, x::tops);
+        is(2, x::dead);
+        is(false, () -> x.lives(2));
+        x.want(0, 2);
+        is(false, x::covered);
+        x.want(0, 1);
+        is(true, x::covered);
+        fails(INDEX, () -> x.count(3, 0));
+        x.arc(0, 0, 9, 0);
+        is(1, x::explore);
+        is(0, () -> x.bound(1));
+        is(1, x::tops);
+        is(0, x::dead);
+        is(false, () -> x.lives(0));
+        is(false, () -> x.lives(1));
+        is(true, x::covered);
+        x.arc(1, 2, 0, 0);
+        x.want(2, 100);
+        is(1, x::back);
+        fails(INDEX, () -> x.goal(1, 0));
+        fails(UNSUPPORTED, x::length);
+    }
+
     private static void node() {
         promise = 10;
         OmegaNets x = wheel();
@@ -468,6 +520,12 @@ public final class OmegaNetsPromises {
         y.start(0, 1);
         y.explore();
         is(0, y::dead);
+        OmegaNets mended = drain();
+        mended.explore();
+        mended.arc(0, 0, 2, 2);
+        mended.arc(0, 1, 0, 0);
+        is(2, mended::explore);
+        is(NONE, mended::dead);
         // Two ends: the first by number is told.
         OmegaNets z = new OmegaNets(3, 2);
         z.start(0, 1);
@@ -632,6 +690,8 @@ public final class OmegaNetsPromises {
         treeGoesWithTheNet();
         count();
         countsRiseInTurn();
+        countsRiseTwice();
+        nothingIsLeftOver();
         node();
         path();
         bound();
